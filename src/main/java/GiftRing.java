@@ -167,7 +167,7 @@ public final class GiftRing {
         if (giver == null || receiver == null || !giver.isPartnerOf(b)) {
             return false;
         }
-        // Both ends of the ring have to wrap, so the step back is taken as a step of all but one.
+        // A step back is taken as a step on by all islands but one, so that one test wraps both.
         int step = kind == NECKLACE ? 1 : islandCount - 1;
         int target = giver.island + step;
         if (target >= islandCount) {
@@ -390,9 +390,9 @@ public final class GiftRing {
             case 3:
                 return treasuresHeldBy(m);
             case 4:
-                return debts.openOnesOf(m);
+                return debts.openOnes(m, NONE);
             case 5:
-                return debts.openOnesTo(m);
+                return debts.openOnes(NONE, m);
             case 6:
                 return debts.lateOnesOf(m, now);
             case 7:
@@ -482,7 +482,7 @@ public final class GiftRing {
             case 5:
                 return debts.size;
             case 6:
-                return debts.openOnes();
+                return debts.openOnes(NONE, NONE);
             case 7:
                 return now;
             case 8:
@@ -585,12 +585,8 @@ public final class GiftRing {
                 if (fault != 0) {
                     return fault;
                 }
-                // One step more passes the semicolon, or leaves the loop behind the last clause.
-                place += 1 + digits;
-                if (place == n) {
-                    break;
-                }
-                place++;
+                // A semicolon as the last byte leads to place n, where a letter is missing then.
+                place += 1 + digits + 1;
             }
             System.arraycopy(draft, 0, terms, 0, terms.length);
             return 0;
@@ -830,30 +826,12 @@ public final class GiftRing {
             }
         }
 
-        int openOnes() {
+        /** How many open ones the one owes to the other; NONE stands for anybody. */
+        int openOnes(int from, int to) {
             int open = 0;
             for (int d = 0; d < size; d++) {
-                if (all[d].isOpen()) {
-                    open++;
-                }
-            }
-            return open;
-        }
-
-        int openOnesOf(int m) {
-            int open = 0;
-            for (int d = 0; d < size; d++) {
-                if (all[d].isOpen() && all[d].debtor == m) {
-                    open++;
-                }
-            }
-            return open;
-        }
-
-        int openOnesTo(int m) {
-            int open = 0;
-            for (int d = 0; d < size; d++) {
-                if (all[d].isOpen() && all[d].creditor == m) {
+                Debt it = all[d];
+                if (it.isOpen() && (from == NONE || it.debtor == from) && (to == NONE || it.creditor == to)) {
                     open++;
                 }
             }

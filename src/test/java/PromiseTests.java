@@ -59,8 +59,8 @@ public final class PromiseTests {
         return ring;
     }
 
-    /** Three islands with a man on each, all partners, debts that are due late; a necklace with man 0. */
-    private static GiftRing smallRing() {
+    /** Three islands with a man on each, all partners, and debts that are due late. */
+    private static GiftRing emptyRing() {
         GiftRing ring = new GiftRing();
         ring.islands(3);
         for (int m = 0; m < 3; m++) {
@@ -69,8 +69,14 @@ public final class PromiseTests {
         ring.partners(0, 1);
         ring.partners(1, 2);
         ring.partners(2, 0);
-        ring.treasure(0, 10, 0);
         tell(ring, "d99");
+        return ring;
+    }
+
+    /** That, with a necklace that man 0 holds. */
+    private static GiftRing smallRing() {
+        GiftRing ring = emptyRing();
+        ring.treasure(0, 10, 0);
         return ring;
     }
 
@@ -384,8 +390,13 @@ public final class PromiseTests {
         ring.treasure(0, 10, 0);
         ring.treasure(1, 79, 1);
         ring.treasure(1, 80, 1);
+        ring.treasure(0, 10, 0);
+        ring.treasure(1, 8, 1);
         ring.give(0, 1, 0);
-        seasons(ring, 5);
+        seasons(ring, 4);
+        due("an opening in the due season", ring.give(0, 1, 4), 0);
+        due("its return", ring.give(1, 0, 5), 1);
+        ring.season();
         due("quarrel", ring.quarrel(0, 1), 1);
         due("an opening by the creditor", ring.give(0, 1, 1), NONE);
         due("meanwhile by the debtor", ring.give(1, 0, 2), NONE);
@@ -398,15 +409,7 @@ public final class PromiseTests {
 
     private static void twoHundredDebts() {
         promise = 8;
-        GiftRing ring = new GiftRing();
-        ring.islands(3);
-        for (int m = 0; m < 3; m++) {
-            ring.man(m);
-        }
-        ring.partners(0, 1);
-        ring.partners(1, 2);
-        ring.partners(2, 0);
-        tell(ring, "d99");
+        GiftRing ring = emptyRing();
         for (int t = 0; t < 23; t++) {
             ring.treasure(0, 100, 0);
         }
@@ -892,7 +895,9 @@ public final class PromiseTests {
         for (int bad : new int[] {-1, 3, 16, HIGH, LOW}) {
             due("look(" + bad + ", 0)", ring.look(bad, 0), NONE);
         }
-        seasons(ring, 5);
+        seasons(ring, 4);
+        due("in the due season", ring.look(1, 6), 0);
+        ring.season();
         due("late ones", ring.look(1, 6), 3);
         due("late ones are open", ring.look(1, 4), 3);
         due("late ones of the creditor", ring.look(0, 6), 0);
@@ -970,6 +975,10 @@ public final class PromiseTests {
         due("dies", ring.dies(1, 3), true);
         due("a dead man has none", ring.quarrel(0, 1), 0);
         due("his heir has", ring.quarrel(3, 0), 1);
+        due("the only late one is debt 0", ring.look(3, 6), 1);
+        due("partners of man 0", ring.look(0, 7), 1);
+        due("and of the heir", ring.look(3, 7), 2);
+        due("they are", ring.partners(0, 3), false);
     }
 
     private static void counts() {
