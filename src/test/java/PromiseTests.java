@@ -1,98 +1,7 @@
-import java.nio.charset.StandardCharsets;
-
 /** One section a promise of the document: ordinary inputs, the edges that it names, wrong inputs. */
-public final class PromiseTests {
-    private static final int NONE = GiftRing.NONE;
-    private static final int LOW = Integer.MIN_VALUE;
-    private static final int HIGH = Integer.MAX_VALUE;
-
-    private static int wrong = 0;
-    private static int asked = 0;
-    private static int promise = 0;
-
-    private static void due(String what, int got, int want) {
-        asked++;
-        if (got != want) {
-            wrong++;
-            System.out.println("promise " + promise + ": " + what + " answered " + got + ", due is " + want);
-        }
-    }
-
-    private static void due(String what, boolean got, boolean want) {
-        due(what, got ? 1 : 0, want ? 1 : 0);
-    }
-
-    private static int feed(GiftRing ring, String text) {
-        byte[] bytes = new byte[20];
-        byte[] given = text.getBytes(StandardCharsets.ISO_8859_1);
-        System.arraycopy(given, 0, bytes, 0, given.length);
-        int[] words = new int[5];
-        for (int i = 0; i < 20; i++) {
-            words[i / 4] = words[i / 4] << 8 | bytes[i] & 255;
-        }
-        return ring.feed(words[0], words[1], words[2], words[3], words[4]);
-    }
-
-    private static int tell(GiftRing ring, String text) {
-        feed(ring, text.length() > 20 ? text.substring(0, 20) : text);
-        if (text.length() > 20) {
-            feed(ring, text.substring(20));
-        }
-        return ring.custom(text.length());
-    }
-
-    private static void seasons(GiftRing ring, int n) {
-        for (int i = 0; i < n; i++) {
-            ring.season();
-        }
-    }
-
-    /** A man on each of the islands told, each a partner of the next one in the list. */
-    private static GiftRing chain(int... islands) {
-        GiftRing ring = new GiftRing();
-        for (int island : islands) {
-            ring.man(island);
-        }
-        for (int m = 0; m + 1 < islands.length; m++) {
-            ring.partners(m, m + 1);
-        }
-        return ring;
-    }
-
-    /** Three islands with a man on each, all partners, and debts that are due late. */
-    private static GiftRing emptyRing() {
-        GiftRing ring = new GiftRing();
-        ring.islands(3);
-        for (int m = 0; m < 3; m++) {
-            ring.man(m);
-        }
-        ring.partners(0, 1);
-        ring.partners(1, 2);
-        ring.partners(2, 0);
-        tell(ring, "d99");
-        return ring;
-    }
-
-    /** That, with a necklace that man 0 holds. */
-    private static GiftRing smallRing() {
-        GiftRing ring = emptyRing();
-        ring.treasure(0, 10, 0);
-        return ring;
-    }
-
-    /** Gives treasure 0 of the small ring on, a gift a season, as often as told. */
-    private static int rounds(GiftRing ring, int gifts) {
-        int last = NONE;
-        for (int i = 0; i < gifts; i++) {
-            int holder = ring.told(0, 2);
-            last = ring.give(holder, (holder + 1) % 3, 0);
-            ring.season();
-        }
-        return last;
-    }
-
+public final class PromiseTests extends RingTest {
     private static void aNewObject() {
-        promise = 1;
+        about("promise 1");
         GiftRing ring = new GiftRing();
         int[] want = {6, 0, 0, 0, 0, 0, 0, 0, 0, NONE, 80, 4, 2, 6, NONE};
         for (int what = 0; what < want.length; what++) {
@@ -107,7 +16,7 @@ public final class PromiseTests {
     }
 
     private static void tape() {
-        promise = 2;
+        about("promise 2");
         GiftRing ring = new GiftRing();
         due("feed", feed(ring, "p50;d7"), 20);
         due("feed again", ring.feed(0x80818283, -1, 0, HIGH, LOW), 40);
@@ -123,7 +32,7 @@ public final class PromiseTests {
     }
 
     private static void aTapeOfTwoFeeds() {
-        promise = 2;
+        about("promise 2");
         GiftRing ring = new GiftRing();
         due("a text over both feeds", tell(ring, "p1;p2;p3;p4;p5;p6;p7;p8;p9;d9;k9;h9;h11"), 0);
         due("p", ring.count(10), 9);
@@ -135,7 +44,7 @@ public final class PromiseTests {
     }
 
     private static void customAndFaults() {
-        promise = 3;
+        about("promise 3");
         String[] texts = {
             "", "x1", "P80", "p", "pp", "p;", "p0", "p301", "d0", "d100", "k100", "h100", "p1;", "p1;;d1",
             "p1x", "p1 ", " p1", "p 1", "p0x", "p00001", "p99999", "p00000", "p0000", "p9999x", "d1d1", "p1;d",
@@ -174,7 +83,7 @@ public final class PromiseTests {
     }
 
     private static void islands() {
-        promise = 4;
+        about("promise 4");
         GiftRing ring = new GiftRing();
         for (int n : new int[] {2, 9, 0, -3, HIGH, LOW}) {
             due("islands(" + n + ")", ring.islands(n), false);
@@ -191,7 +100,7 @@ public final class PromiseTests {
     }
 
     private static void men() {
-        promise = 5;
+        about("promise 5");
         GiftRing ring = new GiftRing();
         for (int island : new int[] {-1, 6, HIGH, LOW}) {
             due("man(" + island + ")", ring.man(island), NONE);
@@ -209,7 +118,7 @@ public final class PromiseTests {
     }
 
     private static void partners() {
-        promise = 6;
+        about("promise 6");
         GiftRing ring = new GiftRing();
         ring.islands(4);
         for (int m = 0; m < 5; m++) {
@@ -240,7 +149,7 @@ public final class PromiseTests {
     }
 
     private static void treasures() {
-        promise = 7;
+        about("promise 7");
         GiftRing ring = chain(0, 1, 0);
         for (int bad : new int[] {-1, 2, HIGH, LOW}) {
             due("kind " + bad, ring.treasure(bad, 5, 0), NONE);
@@ -266,7 +175,7 @@ public final class PromiseTests {
     }
 
     private static void giftsThatCantBe() {
-        promise = 8;
+        about("promise 8");
         GiftRing ring = chain(0, 1, 2);
         ring.man(1);
         ring.man(5);
@@ -295,7 +204,7 @@ public final class PromiseTests {
     }
 
     private static void openings() {
-        promise = 8;
+        about("promise 8");
         GiftRing ring = chain(0, 1);
         ring.treasure(0, 1, 0);
         ring.treasure(0, 999, 0);
@@ -317,7 +226,7 @@ public final class PromiseTests {
     }
 
     private static void returns() {
-        promise = 8;
+        about("promise 8");
         GiftRing ring = chain(0, 1);
         int[] worths = {50, 30, 50, 40};
         for (int t = 0; t < 4; t++) {
@@ -347,7 +256,7 @@ public final class PromiseTests {
     }
 
     private static void meanwhile() {
-        promise = 8;
+        about("promise 8");
         GiftRing ring = chain(0, 1);
         ring.treasure(0, 100, 0);
         for (int worth : new int[] {79, 5, 1, 80}) {
@@ -368,7 +277,7 @@ public final class PromiseTests {
     }
 
     private static void likeKindOpens() {
-        promise = 8;
+        about("promise 8");
         GiftRing ring = chain(0, 1, 2);
         ring.treasure(0, 100, 0);
         ring.treasure(0, 100, 1);
@@ -384,7 +293,7 @@ public final class PromiseTests {
     }
 
     private static void quarrelsAllowReturnsAlone() {
-        promise = 8;
+        about("promise 8");
         GiftRing ring = chain(0, 1);
         ring.treasure(0, 100, 0);
         ring.treasure(0, 10, 0);
@@ -408,21 +317,8 @@ public final class PromiseTests {
     }
 
     private static void twoHundredDebts() {
-        promise = 8;
-        GiftRing ring = emptyRing();
-        for (int t = 0; t < 23; t++) {
-            ring.treasure(0, 100, 0);
-        }
-        int opened = 0;
-        for (int round = 0; round < 9; round++) {
-            for (int t = 0; t < 23 && opened < 200; t++) {
-                due("opening " + opened, ring.give(round % 3, (round + 1) % 3, t), 0);
-                opened++;
-            }
-            if (opened < 200) {
-                ring.season();
-            }
-        }
+        about("promise 8");
+        GiftRing ring = ringOfDebts(200);
         due("count(5)", ring.count(5), 200);
         due("debt(199, 0)", ring.debt(199, 0), 0);
         due("one more", ring.give(2, 0, 20), NONE);
@@ -437,7 +333,7 @@ public final class PromiseTests {
     }
 
     private static void seasonsGoBy() {
-        promise = 9;
+        about("promise 9");
         GiftRing ring = chain(0, 1);
         ring.treasure(0, 11, 0);
         ring.treasure(0, 10, 0);
@@ -467,7 +363,7 @@ public final class PromiseTests {
     }
 
     private static void deaths() {
-        promise = 10;
+        about("promise 10");
         GiftRing ring = new GiftRing();
         int[] home = {0, 0, 1, 1, 5, 0};
         for (int island : home) {
@@ -515,7 +411,7 @@ public final class PromiseTests {
     }
 
     private static void closedDebtsAreInheritedToo() {
-        promise = 10;
+        about("promise 10");
         GiftRing ring = chain(0, 1);
         ring.man(0);
         ring.man(1);
@@ -531,7 +427,7 @@ public final class PromiseTests {
     }
 
     private static void inheritedAnew() {
-        promise = 10;
+        about("promise 10");
         GiftRing ring = chain(0, 1, 0);
         ring.treasure(0, 10, 0);
         seasons(ring, 5);
@@ -544,7 +440,7 @@ public final class PromiseTests {
     }
 
     private static void losses() {
-        promise = 11;
+        about("promise 11");
         GiftRing ring = chain(0, 1);
         ring.treasure(0, 10, 0);
         ring.treasure(0, 10, 0);
@@ -563,7 +459,7 @@ public final class PromiseTests {
     }
 
     private static void news() {
-        promise = 12;
+        about("promise 12");
         GiftRing ring = chain(0, 1);
         ring.treasure(0, 10, 0);
         for (int island : new int[] {-1, 6, HIGH, LOW}) {
@@ -599,7 +495,7 @@ public final class PromiseTests {
     }
 
     private static void inheritedNews() {
-        promise = 12;
+        about("promise 12");
         GiftRing ring = chain(0, 1, 0);
         ring.treasure(0, 10, 0);
         ring.season();
@@ -612,7 +508,7 @@ public final class PromiseTests {
     }
 
     private static void theLastThatHappenedCounts() {
-        promise = 12;
+        about("promise 12");
         GiftRing ring = chain(0, 1, 2, 3);
         ring.treasure(0, 10, 0);
         int[][] want = {
@@ -635,7 +531,7 @@ public final class PromiseTests {
     }
 
     private static void ways() {
-        promise = 13;
+        about("promise 13");
         GiftRing ring = smallRing();
         ring.man(0);
         ring.man(1);
@@ -666,31 +562,8 @@ public final class PromiseTests {
         due("way(0, 63)", ring.way(0, 63), 0);
     }
 
-    /** Man 0 on island 0 owes 1 (island 1) and 2 (island 5) debts of the needs told, in turn for both kinds. */
-    private static GiftRing debtor(int[] armshells, int[] necklaces) {
-        GiftRing ring = chain(5, 0, 1);
-        tell(ring, "p100");
-        for (int worth : necklaces) {
-            int t = ring.treasure(0, worth, 0);
-            ring.give(0, 1, t);
-        }
-        for (int worth : armshells) {
-            int t = ring.treasure(1, worth, 2);
-            ring.give(2, 1, t);
-        }
-        return ring;
-    }
-
-    private static void closingRow(GiftRing ring, int want, int... row) {
-        due("closings(1)", ring.closings(1), want);
-        for (int i = 0; i < row.length; i++) {
-            due("closing(" + i + ")", ring.closing(i), row[i]);
-        }
-        due("closing behind", ring.closing(row.length), NONE);
-    }
-
     private static void closings() {
-        promise = 14;
+        about("promise 14");
         GiftRing ring = debtor(new int[] {40, 20}, new int[] {});
         closingRow(ring, 0, NONE, NONE);
         ring.treasure(0, 50, 1);
@@ -720,7 +593,7 @@ public final class PromiseTests {
     }
 
     private static void mostDebtsThenLeastWorth() {
-        promise = 14;
+        about("promise 14");
         GiftRing ring = debtor(new int[] {10, 30}, new int[] {});
         ring.treasure(0, 20, 1);
         ring.treasure(0, 35, 1);
@@ -744,7 +617,7 @@ public final class PromiseTests {
     }
 
     private static void firstEightAndSix() {
-        promise = 14;
+        about("promise 14");
         GiftRing ring = debtor(new int[] {10, 11, 12, 13, 14, 15, 5}, new int[] {});
         for (int i = 0; i < 8; i++) {
             ring.treasure(0, 9, 1);
@@ -756,7 +629,7 @@ public final class PromiseTests {
     }
 
     private static void whatWasGivenIsNotOneOfTheEight() {
-        promise = 14;
+        about("promise 14");
         GiftRing ring = debtor(new int[] {10}, new int[] {});
         for (int i = 0; i < 8; i++) {
             due("opening", ring.give(0, 1, ring.treasure(0, 1, 0)), 0);
@@ -768,7 +641,7 @@ public final class PromiseTests {
     }
 
     private static void aTreasureWithNoGiftLeft() {
-        promise = 14;
+        about("promise 14");
         GiftRing ring = smallRing();
         ring.man(1);
         ring.partners(0, 3);
@@ -782,12 +655,12 @@ public final class PromiseTests {
         due("64 holders", ring.told(0, 4), 64);
         due("it can't be given", ring.closings(0), 0);
         due("closing(0)", ring.closing(0), NONE);
-        promise = 16;
+        about("promise 16");
         due("soonest asks the partners alone", ring.soonest(0, 3), 1);
     }
 
     private static void closingIsTheLatest() {
-        promise = 15;
+        about("promise 15");
         GiftRing ring = debtor(new int[] {10, 20}, new int[] {});
         due("before closings", ring.closing(0), NONE);
         ring.treasure(0, 20, 1);
@@ -806,7 +679,7 @@ public final class PromiseTests {
     }
 
     private static void soonestAndThrough() {
-        promise = 16;
+        about("promise 16");
         GiftRing ring = new GiftRing();
         ring.islands(4);
         int[] home = {0, 1, 1, 2, 2, 3, 0, 1};
@@ -821,7 +694,7 @@ public final class PromiseTests {
         ring.treasure(1, 10, 0);
         due("soonest(0, 5)", ring.soonest(0, 5), 3);
         int[] row = {0, 1, 4, 5};
-        promise = 17;
+        about("promise 17");
         for (int i = 0; i < row.length; i++) {
             due("through(0, 5, " + i + ")", ring.through(0, 5, i), row[i]);
         }
@@ -833,7 +706,7 @@ public final class PromiseTests {
         due("through(0, 0, 0)", ring.through(0, 0, 0), 0);
         due("through(0, 0, 1)", ring.through(0, 0, 1), NONE);
         due("through(1, 1, 0)", ring.through(1, 1, 0), NONE);
-        promise = 16;
+        about("promise 16");
         due("all round", ring.soonest(0, 6), 4);
         due("0: he holds it", ring.soonest(0, 0), 0);
         due("no way", ring.soonest(0, 7), NONE);
@@ -856,7 +729,7 @@ public final class PromiseTests {
 
     /** A way of fifteen gifts, as long as one can be. */
     private static void theLongestWay() {
-        promise = 16;
+        about("promise 16");
         int[] home = new int[16];
         for (int m = 0; m < 16; m++) {
             home[m] = m % 6;
@@ -866,7 +739,7 @@ public final class PromiseTests {
         ring.treasure(1, 1, 15);
         due("on", ring.soonest(0, 15), 15);
         due("back", ring.soonest(1, 0), 15);
-        promise = 17;
+        about("promise 17");
         for (int i = 0; i < 16; i++) {
             due("through(0, 15, " + i + ")", ring.through(0, 15, i), i);
             due("through(1, 0, " + i + ")", ring.through(1, 0, i), 15 - i);
@@ -875,7 +748,7 @@ public final class PromiseTests {
     }
 
     private static void looks() {
-        promise = 18;
+        about("promise 18");
         GiftRing ring = chain(4, 5, 0);
         ring.treasure(0, 100, 0);
         ring.treasure(0, 10, 0);
@@ -905,7 +778,7 @@ public final class PromiseTests {
     }
 
     private static void toldOfTreasures() {
-        promise = 19;
+        about("promise 19");
         GiftRing ring = chain(0, 1);
         seasons(ring, 2);
         ring.treasure(1, 77, 1);
@@ -928,7 +801,7 @@ public final class PromiseTests {
     }
 
     private static void toldOfDebts() {
-        promise = 20;
+        about("promise 20");
         GiftRing ring = chain(0, 1);
         ring.treasure(1, 55, 1);
         ring.treasure(0, 44, 0);
@@ -954,7 +827,7 @@ public final class PromiseTests {
     }
 
     private static void quarrels() {
-        promise = 21;
+        about("promise 21");
         GiftRing ring = chain(0, 1, 2);
         ring.man(1);
         ring.treasure(0, 10, 0);
@@ -982,7 +855,7 @@ public final class PromiseTests {
     }
 
     private static void counts() {
-        promise = 22;
+        about("promise 22");
         GiftRing ring = new GiftRing();
         ring.islands(5);
         for (int m = 0; m < 4; m++) {
@@ -1011,7 +884,7 @@ public final class PromiseTests {
     }
 
     private static void objectsAreApart() {
-        promise = 1;
+        about("promise 1");
         GiftRing one = new GiftRing();
         GiftRing other = new GiftRing();
         tell(one, "p5;h9");
@@ -1062,9 +935,6 @@ public final class PromiseTests {
         toldOfDebts();
         quarrels();
         counts();
-        System.out.println(asked + " answers asked, " + wrong + " not as due");
-        if (wrong != 0) {
-            System.exit(1);
-        }
+        finish();
     }
 }
