@@ -379,6 +379,22 @@ public final class BoundsOfGifts extends RingTest {
         due("count(5)", ring.count(5), 1);
     }
 
+    private static void aRefusedGiftWinsNothing() {
+        about("if that was not won for it before (a refused gift wins nothing)");
+        GiftRing ring = chain(0, 1);
+        tell(ring, "p100;d50");
+        due("the first is due late", ring.give(0, 1, ring.treasure(0, 50, 0)), 0);
+        tell(ring, "p100;d1");
+        due("the second is due soon", ring.give(0, 1, ring.treasure(0, 40, 0)), 0);
+        seasons(ring, 2);
+        int small = ring.treasure(1, 30, 1);
+        due("a gift meanwhile in a quarrel", ring.give(1, 0, small), NONE);
+        due("a return ends it", giveBack(ring, 40), 1);
+        due("debt(0, 4)", ring.debt(0, 4), 50);
+        due("a gift meanwhile then", ring.give(1, 0, small), 2);
+        due("wins", ring.debt(0, 4), 52);
+    }
+
     public static void main(String[] args) {
         aHolderGives();
         noSuchOnes();
@@ -401,6 +417,7 @@ public final class BoundsOfGifts extends RingTest {
         aReturnOfAnotherDebt();
         fameOfGifts();
         aRefusedGiftBringsNoFame();
+        aRefusedGiftWinsNothing();
         finish();
     }
 }

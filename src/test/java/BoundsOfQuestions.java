@@ -84,6 +84,10 @@ public final class BoundsOfQuestions extends RingTest {
         numbers.treasure(0, 30, 1);
         numbers.treasure(0, 15, 1);
         closingRow(numbers, 2, 3, 2);
+        GiftRing likeInAll = debtor(new int[] {40, 10}, NO_DEBTS);
+        likeInAll.treasure(0, 50, 1);
+        likeInAll.treasure(0, 45, 1);
+        closingRow(likeInAll, 2, 2, 3);
         GiftRing kinds = debtor(new int[] {10}, new int[] {10});
         kinds.treasure(0, 10, 1);
         kinds.treasure(1, 10, 1);
@@ -208,6 +212,19 @@ public final class BoundsOfQuestions extends RingTest {
         closingRow(ring, 1, 3, NONE);
         due("one who owes nothing", ring.closings(2), 0);
         due("has no row", ring.closing(0), NONE);
+    }
+
+    private static void fewerDebtsThanBefore() {
+        about("by the latest closings() (nothing of an earlier one is in it)");
+        GiftRing ring = debtor(new int[] {10, 10, 10}, NO_DEBTS);
+        ring.treasure(0, 30, 1);
+        ring.treasure(0, 20, 1);
+        ring.treasure(0, 10, 1);
+        closingRow(ring, 3, 3, 4, 5);
+        due("a return", ring.give(1, 2, ring.treasure(0, 10, 1)), 1);
+        closingRow(ring, 2, 4, 5);
+        due("another one", ring.give(1, 2, ring.treasure(0, 10, 1)), 1);
+        closingRow(ring, 1, 5);
     }
 
     private static void placesOfARow() {
@@ -444,6 +461,7 @@ public final class BoundsOfQuestions extends RingTest {
         lateDebtsAreOpen();
         closingsOfALivingMan();
         theLatestThatWasNotNone();
+        fewerDebtsThanBefore();
         placesOfARow();
         fewestGifts();
         theLeastRowOfMen();
