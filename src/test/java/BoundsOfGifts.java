@@ -198,6 +198,12 @@ public final class BoundsOfGifts extends RingTest {
         due("dies(1, 3)", ring.dies(1, 3), true);
         due("by heirs", ring.give(3, 2, ring.treasure(1, 1, 3)), 2);
         due("nothing is won", ring.debt(0, 4), 6);
+        GiftRing none = openings(50);
+        tell(none, "k0");
+        due("meanwhile where k is 0", giveBack(none, 1), 2);
+        tell(none, "k9");
+        due("meanwhile where k is 9", giveBack(none, 1), 2);
+        due("the 0 were won before", none.debt(0, 4), 4);
     }
 
     private static void needIsRoundedUp() {
