@@ -23,6 +23,9 @@ public final class LanguageRules {
         "public int debt(int,int)", "public int quarrel(int,int)", "public int count(int)");
     private static final Set<String> LIBRARY = Set.of("Arrays", "Math", "Integer", "System", "String");
 
+    private static final Set<Class<?>> STATIC_TYPES = Set.of(int.class, long.class, boolean.class, char.class,
+        String.class, int[].class, long[].class, char[].class, byte[].class);
+
     private static int wrong = 0;
 
     private static void must(int rule, String what, boolean holds) {
@@ -75,12 +78,25 @@ public final class LanguageRules {
         for (Field field : it.getDeclaredFields()) {
             boolean shared = Modifier.isStatic(field.getModifiers());
             must(5, field + " is final", !shared || Modifier.isFinal(field.getModifiers()));
+            must(5, field + " is of no type for a static one", !shared || STATIC_TYPES.contains(field.getType()));
+            must(3, field + " is of no type of the rules", isOfTheRules(field.getType()));
             fields += shared ? 0 : 1;
         }
         must(11, it + " has " + fields + " fields", fields <= 20);
         for (Method method : it.getDeclaredMethods()) {
             must(11, method + " takes too much", method.getParameterCount() <= 7);
+            boolean ofTheFace = FACE.stream().anyMatch(line -> line.contains(" " + method.getName() + "("));
+            must(1, method + " bears a public name", it == GiftRing.class || !ofTheFace);
         }
+    }
+
+    private static boolean isOfTheRules(Class<?> type) {
+        if (!type.isArray()) {
+            return type.isPrimitive() || type == String.class || type.getDeclaringClass() == GiftRing.class;
+        }
+        Class<?> part = type.getComponentType();
+        boolean numbersOfTwo = part.isArray() && part.getComponentType().isPrimitive();
+        return numbersOfTwo || !part.isArray() && isOfTheRules(part);
     }
 
     private static void words(String source) {

@@ -1,4 +1,3 @@
-import java.util.ArrayList;
 import java.util.List;
 import java.util.Random;
 import java.util.function.Supplier;
@@ -9,89 +8,7 @@ import java.util.function.ToIntFunction;
  * the calls that are refused are made on one of them alone, and the two must show the same then,
  * at once and after some life more, in which what can't be seen at once would come out.
  */
-public final class RefusedCalls extends RingTest {
-    private static final int[] ODD = {-1, LOW, HIGH, 16, 24, 32, 33, 64, 200, 1000};
-
-    /** All that a ring shows; closing() comes first, since closings() writes its row anew. */
-    private static List<Integer> portrait(GiftRing ring) {
-        List<Integer> all = new ArrayList<>();
-        for (int i = -1; i < 8; i++) {
-            all.add(ring.closing(i));
-        }
-        for (int what = -1; what < 16; what++) {
-            all.add(ring.count(what));
-        }
-        for (int m = 0; m < ring.count(1); m++) {
-            addMan(ring, m, all);
-        }
-        for (int t = 0; t < ring.count(3); t++) {
-            addTreasure(ring, t, all);
-        }
-        for (int d = 0; d < ring.count(5); d++) {
-            for (int what = 0; what < 8; what++) {
-                all.add(ring.debt(d, what));
-            }
-        }
-        return all;
-    }
-
-    private static void addMan(GiftRing ring, int m, List<Integer> all) {
-        for (int what = 0; what < 8; what++) {
-            all.add(ring.look(m, what));
-        }
-        for (int b = 0; b < ring.count(1); b++) {
-            all.add(ring.quarrel(m, b));
-        }
-        all.add(ring.closings(m));
-        for (int i = 0; i < 6; i++) {
-            all.add(ring.closing(i));
-        }
-    }
-
-    private static void addTreasure(GiftRing ring, int t, List<Integer> all) {
-        for (int what = 0; what < 5; what++) {
-            all.add(ring.told(t, what));
-        }
-        for (int island = 0; island < ring.count(0); island++) {
-            all.add(ring.known(island, t));
-        }
-        for (int i = 0; i < ring.told(t, 4); i++) {
-            all.add(ring.way(t, i));
-        }
-        for (int m = 0; m < ring.count(1); m++) {
-            for (int i = 0; i < 4; i++) {
-                all.add(ring.through(t, m, i));
-            }
-        }
-    }
-
-    private static boolean showTheSame(GiftRing one, GiftRing other) {
-        return portrait(one).equals(portrait(other));
-    }
-
-    /** Reads the tape, lets all give what they can, and lets seasons go by, the same for each ring. */
-    private static List<Integer> lifeMore(GiftRing ring) {
-        List<Integer> all = new ArrayList<>();
-        all.add(feed(ring, "p9"));
-        all.add(ring.custom(Math.min(ring.count(8), 15)));
-        for (int round = 0; round < 6; round++) {
-            for (int t = 0; t < ring.count(3); t++) {
-                for (int n = 0; n < ring.count(1); n++) {
-                    all.add(ring.give(ring.told(t, 2), n, t));
-                }
-            }
-            all.addAll(portrait(ring));
-            all.add(ring.season());
-        }
-        for (int m = 0; m < ring.count(1); m++) {
-            for (int n = 0; n < ring.count(1); n++) {
-                all.add(ring.partners(m, n) ? 1 : 0);
-            }
-        }
-        all.addAll(portrait(ring));
-        return all;
-    }
-
+public final class RefusedCalls extends RingLife {
     private static int flag(boolean answer) {
         return answer ? 1 : 0;
     }
@@ -113,101 +30,13 @@ public final class RefusedCalls extends RingTest {
         refused(kind, what, 0, call);
     }
 
-    /**
-     * Men 0 to 3 on islands 0 to 3, man 4 dead on 0 with heir 0, man 5 on 5 and man 6 on 1. Man 1
-     * owes 0 two debts, one of them late, and man 0 owes 5; treasure 3 is lost, and a text is fed.
-     */
-    private static GiftRing busyRing() {
-        GiftRing ring = new GiftRing();
-        for (int island : new int[] {0, 1, 2, 3, 0, 5, 1}) {
-            ring.man(island);
-        }
-        int[][] pairs = {{0, 1}, {1, 2}, {2, 3}, {4, 1}, {0, 5}};
-        for (int[] pair : pairs) {
-            ring.partners(pair[0], pair[1]);
-        }
-        int[][] treasures = {{0, 50, 0}, {0, 20, 0}, {1, 15, 1}, {1, 30, 1}, {0, 9, 5}, {0, 7, 4}, {1, 8, 0}, {1, 40, 1}};
-        for (int[] row : treasures) {
-            ring.treasure(row[0], row[1], row[2]);
-        }
-        ring.give(0, 1, 0);
-        tell(ring, "p90;d50;k3;h4");
-        ring.give(0, 1, 1);
-        ring.dies(4, 0);
-        ring.lost(3);
-        seasons(ring, 5);
-        ring.give(5, 0, 4);
-        feed(ring, "p77;d66;k55;h44");
-        ring.closings(1);
-        return ring;
-    }
-
-    /** Man 1 holds a necklace that was given to him in this season and could go on to man 2. */
-    private static GiftRing ringWithAGift() {
-        GiftRing ring = chain(0, 1, 2);
-        ring.treasure(0, 10, 0);
-        ring.give(0, 1, 0);
-        return ring;
-    }
-
-    /** Man 1 owes 0 a debt that is late, behind one that is not and for which nothing was won. */
-    private static GiftRing quarrellingRing() {
-        GiftRing ring = chain(0, 1);
-        ring.treasure(0, 50, 0);
-        ring.treasure(0, 40, 0);
-        ring.treasure(1, 40, 1);
-        ring.treasure(1, 30, 1);
-        ring.treasure(0, 5, 0);
-        tell(ring, "p100;d50");
-        ring.give(0, 1, 0);
-        tell(ring, "p100;d1");
-        ring.give(0, 1, 1);
-        seasons(ring, 2);
-        return ring;
-    }
-
-    private static GiftRing ringWithAFullTape() {
-        GiftRing ring = busyRing();
-        feed(ring, ";p1");
-        return ring;
-    }
-
-    private static GiftRing fullRing() {
-        GiftRing ring = new GiftRing();
-        for (int m = 0; m < 16; m++) {
-            ring.man(m % 6);
-        }
-        ring.partners(0, 1);
-        for (int t = 0; t < 24; t++) {
-            ring.treasure(t % 2, 10 + t, t % 16);
-        }
-        return ring;
-    }
-
-    private static GiftRing ringWithAFullWay() {
-        GiftRing ring = smallRing();
-        rounds(ring, 63);
-        return ring;
-    }
-
-    private static GiftRing ringWithAllDebts() {
-        return ringOfDebts(200);
-    }
-
-    private static GiftRing ringAtItsEnd() {
-        GiftRing ring = chain(0, 1);
-        ring.treasure(0, 10, 0);
-        seasons(ring, 1000);
-        return ring;
-    }
-
     private static void theTape() {
         about("a refused feed or custom");
-        Supplier<GiftRing> full = RefusedCalls::ringWithAFullTape;
+        Supplier<GiftRing> full = RingLife::ringWithAFullTape;
         refuses(full, "feed of a full tape", ring -> ring.feed(1, 2, 3, 4, 5));
         refuses(full, "custom(41)", ring -> ring.custom(41));
         refuses(full, "custom(-1)", ring -> ring.custom(-1));
-        Supplier<GiftRing> busy = RefusedCalls::busyRing;
+        Supplier<GiftRing> busy = RingLife::busyRing;
         refuses(busy, "custom(21)", ring -> ring.custom(21));
         refuses(busy, "custom(-1)", ring -> ring.custom(-1));
         refuses(busy, "custom(HIGH)", ring -> ring.custom(HIGH));
@@ -232,8 +61,8 @@ public final class RefusedCalls extends RingTest {
 
     private static void islandsAndMen() {
         about("refused islands, men, partners and treasures");
-        Supplier<GiftRing> busy = RefusedCalls::busyRing;
-        Supplier<GiftRing> full = RefusedCalls::fullRing;
+        Supplier<GiftRing> busy = RingLife::busyRing;
+        Supplier<GiftRing> full = RingLife::fullRing;
         for (int n : new int[] {2, 9, -1, 0, HIGH, LOW}) {
             denies(GiftRing::new, "islands(" + n + ")", ring -> flag(ring.islands(n)));
             denies(busy, "islands(" + n + ")", ring -> flag(ring.islands(n)));
@@ -266,7 +95,7 @@ public final class RefusedCalls extends RingTest {
 
     private static void gifts() {
         about("a refused gift");
-        Supplier<GiftRing> busy = RefusedCalls::busyRing;
+        Supplier<GiftRing> busy = RingLife::busyRing;
         int[][] rows = {
             {1, 2, 5}, {4, 1, 5}, {0, 6, 5}, {0, 4, 5}, {0, 0, 5}, {0, 5, 5}, {0, 1, 6}, {0, 1, 4}, {1, 0, 3}, {7, 1, 5},
             {0, 7, 5}, {0, 1, 8}, {-1, 1, 5}, {0, -1, 5}, {0, 1, -1}, {0, 33, 5}, {HIGH, LOW, HIGH}, {1, 1, 0}, {1, 0, 0},
@@ -278,20 +107,20 @@ public final class RefusedCalls extends RingTest {
         GiftRing quarrelling = busyRing();
         due("there is a quarrel", quarrelling.quarrel(0, 1), 1);
         due("and a return that can be", quarrelling.give(1, 0, 7), 1);
-        Supplier<GiftRing> quarrel = RefusedCalls::quarrellingRing;
+        Supplier<GiftRing> quarrel = RingLife::quarrellingRing;
         refuses(busy, "an opening in a quarrel", ring -> ring.give(0, 1, 5));
         refuses(busy, "a gift meanwhile in a quarrel", ring -> ring.give(1, 0, 2));
         refuses(quarrel, "an opening in a quarrel that ends", ring -> ring.give(0, 1, 4));
         refuses(quarrel, "a gift meanwhile in a quarrel that ends", ring -> ring.give(1, 0, 3));
-        refuses(RefusedCalls::ringWithAGift, "a second gift in a season", ring -> ring.give(1, 2, 0));
-        refuses(RefusedCalls::ringWithAFullWay, "a gift behind the 64th holder", ring -> ring.give(0, 1, 0));
-        refuses(RefusedCalls::ringWithAllDebts, "an opening behind the 200th debt", ring -> ring.give(2, 0, 20));
+        refuses(RingLife::ringWithAGift, "a second gift in a season", ring -> ring.give(1, 2, 0));
+        refuses(RingLife::ringWithAFullWay, "a gift behind the 64th holder", ring -> ring.give(0, 1, 0));
+        refuses(RingLife::ringWithAllDebts, "an opening behind the 200th debt", ring -> ring.give(2, 0, 20));
     }
 
     private static void timeAndLoss() {
         about("a refused season, death or loss");
-        Supplier<GiftRing> busy = RefusedCalls::busyRing;
-        refuses(RefusedCalls::ringAtItsEnd, "season 1001", GiftRing::season);
+        Supplier<GiftRing> busy = RingLife::busyRing;
+        refuses(RingLife::ringAtItsEnd, "season 1001", GiftRing::season);
         int[][] rows = {
             {0, 0}, {0, 1}, {0, 4}, {4, 0}, {4, 4}, {-1, 0}, {0, -1}, {7, 0}, {0, 7}, {HIGH, 0}, {0, LOW}, {32, 0}, {2, 3},
         };
@@ -305,7 +134,7 @@ public final class RefusedCalls extends RingTest {
 
     private static void questions() {
         about("a refused question");
-        Supplier<GiftRing> busy = RefusedCalls::busyRing;
+        Supplier<GiftRing> busy = RingLife::busyRing;
         for (int bad : ODD) {
             refuses(busy, "known(" + bad + ", 0)", ring -> ring.known(bad, 0));
             refuses(busy, "known(0, " + bad + ")", ring -> ring.known(0, bad));
@@ -352,58 +181,6 @@ public final class RefusedCalls extends RingTest {
         }
         due("as in a ring that was not asked", showTheSame(asked, fresh), true);
         due("and later", lifeMore(asked).equals(lifeMore(fresh)), true);
-    }
-
-    private static int some(Random dice, int n) {
-        return dice.nextInt(25) == 0 ? ODD[dice.nextInt(ODD.length)] : dice.nextInt(n);
-    }
-
-    private static int noneIfNot(boolean answer) {
-        return answer ? 1 : NONE;
-    }
-
-    /** A call with mixed arguments that answers NONE where it is refused. */
-    private static ToIntFunction<GiftRing> anyCall(Random dice) {
-        int a = some(dice, 9);
-        int b = some(dice, 9);
-        int t = some(dice, 14);
-        int worth = some(dice, 60);
-        switch (dice.nextInt(40)) {
-            case 0:
-                return ring -> noneIfNot(ring.dies(a, b));
-            case 1:
-                return ring -> noneIfNot(ring.lost(t));
-            case 2:
-            case 3:
-                return ring -> feed(ring, "p" + (worth & 511) + ";d" + (a & 127) + ";k" + (b & 127));
-            case 4:
-            case 5:
-                return ring -> ring.custom(worth / 2);
-            case 6:
-            case 7:
-                return ring -> ring.man(a);
-            case 8:
-                return ring -> noneIfNot(ring.islands(a));
-            case 9:
-            case 10:
-                return ring -> ring.closings(a);
-            case 11:
-            case 12:
-            case 13:
-            case 14:
-                return ring -> noneIfNot(ring.partners(a, b));
-            case 15:
-            case 16:
-            case 17:
-            case 18:
-                return ring -> ring.treasure(t & 1, worth, a);
-            case 19:
-            case 20:
-            case 21:
-                return GiftRing::season;
-            default:
-                return ring -> ring.give(ring.told(t, 2), a, t);
-        }
     }
 
     private static void mixedRuns() {
